@@ -1,0 +1,79 @@
+/** Counts and prints the calls whose answers are not the ones that are due. */
+final class Due {
+    interface Answer {
+        long of();
+    }
+
+    interface Truth {
+        boolean of();
+    }
+
+    static final Class<?> NO_SUCH = IndexOutOfBoundsException.class;
+    static final Class<?> OUT_OF_RANGE = IllegalArgumentException.class;
+    static final Class<?> NOT_NOW = IllegalStateException.class;
+
+    private final String test;
+    private int calls = 0;
+    private int wrong = 0;
+
+    Due(String test) {
+        this.test = test;
+    }
+
+    void is(String call, long due, Answer answer) {
+        calls++;
+        try {
+            long got = answer.of();
+            if (got != due) {
+                tellWrong(call, String.valueOf(got), String.valueOf(due));
+            }
+        } catch (RuntimeException e) {
+            tellWrong(call, e.getClass().getName(), String.valueOf(due));
+        }
+    }
+
+    void holds(String call, boolean due, Truth truth) {
+        is(call, due ? 1 : 0, () -> truth.of() ? 1 : 0);
+    }
+
+    void same(String call, String due, String got) {
+        calls++;
+        if (!got.equals(due)) {
+            tellWrong(call, got, due);
+        }
+    }
+
+    /** The call ends without an exception. */
+    void ends(String call, Runnable run) {
+        is(call, 0, () -> {
+            run.run();
+            return 0;
+        });
+    }
+
+    /** The call throws just this exception, none of a class below it. */
+    void fails(String call, Class<?> due, Runnable run) {
+        calls++;
+        try {
+            run.run();
+            tellWrong(call, "without an exception", due.getName());
+        } catch (RuntimeException e) {
+            if (e.getClass() != due) {
+                tellWrong(call, e.getClass().getName(), due.getName());
+            }
+        }
+    }
+
+    /** Ends the program: with the code 1 if an answer was wrong. */
+    void end() {
+        System.out.println(test + ": " + calls + " answers, " + wrong + " not as due");
+        if (wrong != 0 || calls == 0) {
+            System.exit(1);
+        }
+    }
+
+    private void tellWrong(String call, String got, String due) {
+        wrong++;
+        System.out.println(test + ": " + call + " answered " + got + ", due is " + due);
+    }
+}
