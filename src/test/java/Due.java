@@ -1,3 +1,5 @@
+import java.util.function.Consumer;
+
 /** Counts and prints the calls whose answers are not the ones that are due. */
 final class Due {
     interface Answer {
@@ -62,6 +64,13 @@ final class Due {
                 tellWrong(call, e.getClass().getName(), due.getName());
             }
         }
+    }
+
+    /** The call throws just this exception and changes nothing of Sample.house(). */
+    void refuses(String call, Class<?> due, Consumer<Panelry> run) {
+        Panelry x = Sample.house();
+        fails(call, due, () -> run.accept(x));
+        same("what " + call + " leaves", Answers.of(Sample.house()), Answers.of(x));
     }
 
     /** Ends the program: with the code 1 if an answer was wrong. */

@@ -1,0 +1,74 @@
+/** Promise 5: read answers the panels of a reading, cut by the widest gutters. */
+public final class Promise05Test {
+    public static void main(String[] args) {
+        Due due = new Due("Promise05Test");
+        readings(due);
+        due.fails("a place in a page without panels", Due.NO_SUCH, () -> Sample.house().read(2, false, 0));
+        due.refuses("the place behind the last one", Due.NO_SUCH, x -> x.read(0, false, 3));
+        due.refuses("the place -1", Due.NO_SUCH, x -> x.read(0, true, -1));
+        due.refuses("the page -1", Due.NO_SUCH, x -> x.read(-1, false, 0));
+        due.refuses("the page 3", Due.NO_SUCH, x -> x.read(3, false, 0));
+        due.fails("the greatest place", Due.NO_SUCH, () -> Sample.house().read(0, false, Integer.MAX_VALUE));
+        due.is("a printed page is read", 1, () -> Sample.house().read(1, true, 0));
+        due.end();
+    }
+
+    /** Reads a page of these panels, which is itself of the other direction. */
+    private static void reads(Due due, String told, String rightward, String leftward, int[]... panels) {
+        for (int way = 0; way < 2; way++) {
+            boolean isLeftward = way == 1;
+            Panelry x = new Panelry();
+            x.page(!isLeftward);
+            for (int[] p : panels) {
+                x.panel(0, p[0], p[1], p[2], p[3]);
+            }
+            due.same(told + (isLeftward ? ", leftward" : ", rightward"), isLeftward ? leftward : rightward,
+                    Sample.reading(x, 0, isLeftward, panels.length));
+        }
+    }
+
+    private static int[] at(int x, int y, int width, int height) {
+        return new int[] {x, y, width, height};
+    }
+
+    private static void readings(Due due) {
+        reads(due, "one panel", "0", "0", at(10, 10, 10, 10));
+        reads(due, "one above the other", "10", "10", at(0, 20, 10, 10), at(20, 0, 10, 10));
+        reads(due, "one beside the other", "10", "01", at(20, 0, 10, 10), at(0, 5, 10, 10));
+        reads(due, "the cut downward has the wider gutter", "0213", "1302",
+                at(0, 0, 20, 20), at(24, 0, 20, 20), at(0, 22, 20, 20), at(24, 22, 20, 20));
+        reads(due, "the cut across has the wider gutter", "0123", "1032",
+                at(0, 0, 20, 20), at(22, 0, 20, 20), at(0, 24, 20, 20), at(22, 24, 20, 20));
+        reads(due, "of like gutters the cut across", "0123", "1032",
+                at(0, 0, 20, 20), at(22, 0, 20, 20), at(0, 22, 20, 20), at(22, 22, 20, 20));
+        reads(due, "gutters of 0, a cut across among them", "0123", "1032",
+                at(0, 0, 20, 20), at(20, 0, 20, 20), at(0, 20, 20, 20), at(20, 20, 20, 20));
+        reads(due, "no cut", "01234", "01234",
+                at(0, 0, 40, 20), at(40, 0, 20, 60), at(20, 60, 40, 20), at(0, 20, 20, 60), at(20, 20, 20, 40));
+        reads(due, "no cut, other numbers", "01234", "01234",
+                at(20, 20, 20, 40), at(0, 20, 20, 60), at(20, 60, 40, 20), at(40, 0, 20, 60), at(0, 0, 40, 20));
+        reads(due, "the widest gutter is not the first one", "0213", "1302",
+                at(0, 0, 10, 30), at(40, 0, 10, 30), at(12, 33, 10, 30), at(45, 34, 10, 30));
+        reads(due, "a cut inside a part", "102", "210",
+                at(0, 30, 20, 20), at(0, 0, 20, 20), at(40, 0, 20, 80));
+        reads(due, "a gutter is measured at the nearest panels", "0123", "2301",
+                at(0, 0, 20, 30), at(0, 33, 22, 40), at(25, 0, 20, 31), at(25, 36, 20, 30));
+        tiedCutsDownward(due);
+        tiedCutsAcross(due);
+    }
+
+    /** Two cuts downward with like gutters: by which one is first, a wider cut across comes up or does not. */
+    private static void tiedCutsDownward(Due due) {
+        reads(due, "three columns", "012", "210", at(0, 0, 18, 60), at(20, 0, 18, 60), at(40, 0, 18, 60));
+        reads(due, "a cut across behind the cut at the least x", "01234", "24130",
+                at(0, 0, 18, 40), at(20, 0, 18, 30), at(40, 0, 18, 30), at(20, 34, 18, 30), at(40, 34, 18, 30));
+        reads(due, "a cut across behind the cut at the greatest x", "02134", "41032",
+                at(0, 0, 18, 30), at(20, 0, 18, 30), at(0, 34, 18, 30), at(20, 34, 18, 30), at(40, 0, 18, 40));
+    }
+
+    private static void tiedCutsAcross(Due due) {
+        reads(due, "three rows", "012", "012", at(0, 0, 60, 10), at(0, 12, 60, 10), at(0, 24, 60, 10));
+        reads(due, "a cut downward behind the cut at the least y", "01234", "03412",
+                at(10, 0, 40, 10), at(0, 12, 20, 10), at(0, 24, 20, 10), at(24, 12, 20, 10), at(24, 24, 20, 10));
+    }
+}

@@ -1,0 +1,50 @@
+/** Promise 7: orders counts the orders that keep the panels above ahead, and those on the one side. */
+public final class Promise07Test {
+    public static void main(String[] args) {
+        Due due = new Due("Promise07Test");
+        orders(due, "no panel", 1, 1);
+        orders(due, "one panel", 1, 1, at(0, 0, 60, 80));
+        orders(due, "two panels beside one another", 1, 1, at(0, 0, 20, 20), at(20, 0, 20, 20));
+        orders(due, "two panels corner to corner", 1, 1, at(0, 0, 20, 20), at(20, 20, 20, 20));
+        orders(due, "stairs that rise to the right", 0, 1, at(0, 10, 10, 10), at(10, 5, 10, 10), at(20, 0, 10, 10));
+        orders(due, "stairs that sink to the right", 1, 0, at(0, 0, 10, 10), at(10, 5, 10, 10), at(20, 10, 10, 10));
+        orders(due, "stairs that rise by less than to wholly above", 1, 1,
+                at(0, 10, 10, 11), at(10, 5, 10, 10), at(20, 0, 10, 11));
+        orders(due, "stairs that rise beside one another, told the other way round", 0, 1,
+                at(20, 0, 10, 10), at(10, 5, 10, 10), at(0, 10, 10, 10));
+        orders(due, "the panels around a middle", 1, 1,
+                at(0, 0, 40, 20), at(40, 0, 20, 60), at(20, 60, 40, 20), at(0, 20, 20, 60), at(20, 20, 20, 40));
+        due.is("eight panels in rows", 1, () -> Sample.fullPage(false).orders(0, true));
+        due.is("eight panels in rows, rightward", 1, () -> Sample.fullPage(true).orders(0, false));
+        due.is("stairs of two on a page of eight panels", 0, () -> {
+            Panelry x = new Panelry();
+            x.page(false);
+            for (int i = 0; i < 5; i++) {
+                x.panel(0, 0, i * 10, 50, 10);
+            }
+            x.panel(0, 0, 65, 10, 10);
+            x.panel(0, 10, 60, 10, 10);
+            x.panel(0, 20, 55, 10, 10);
+            return x.orders(0, false);
+        });
+        due.refuses("orders of the page -1", Due.NO_SUCH, x -> x.orders(-1, false));
+        due.refuses("orders of the page 3", Due.NO_SUCH, x -> x.orders(3, true));
+        due.end();
+    }
+
+    private static int[] at(int x, int y, int width, int height) {
+        return new int[] {x, y, width, height};
+    }
+
+    private static void orders(Due due, String told, int rightward, int leftward, int[]... panels) {
+        for (int way = 0; way < 2; way++) {
+            Panelry x = new Panelry();
+            x.page(way == 1);
+            for (int[] p : panels) {
+                x.panel(0, p[0], p[1], p[2], p[3]);
+            }
+            due.is(told + ", rightward", rightward, () -> x.orders(0, false));
+            due.is(told + ", leftward", leftward, () -> x.orders(0, true));
+        }
+    }
+}
