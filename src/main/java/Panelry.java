@@ -704,8 +704,8 @@ public final class Panelry {
             answers[PRINT_PANELS] = panels.size();
             answers[PRINT_LETTERS] = countLetters();
             Reading reading = Reading.of(this, isLeftward);
-            for (int at = 0; at < MAX_PANELS; at++) {
-                answers[PRINT_READING + at] = reading.panelAt(at);
+            for (int i = PRINT_READING; i < answers.length; i++) {
+                answers[i] = reading.panelAt(i - PRINT_READING);
             }
             return answers;
         }

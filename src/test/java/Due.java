@@ -53,17 +53,22 @@ final class Due {
         });
     }
 
-    /** The call throws just this exception, none of a class below it. */
+    /** The call throws just this exception, none of a class below it, by a throw of the program's own. */
     void fails(String call, Class<?> due, Runnable run) {
         calls++;
         try {
             run.run();
             tellWrong(call, "without an exception", due.getName());
         } catch (RuntimeException e) {
-            if (e.getClass() != due) {
-                tellWrong(call, e.getClass().getName(), due.getName());
+            if (e.getClass() != due || !isThrownByPanelry(e)) {
+                tellWrong(call, e + " of " + e.getStackTrace()[0], due.getName() + " of Panelry");
             }
         }
+    }
+
+    private static boolean isThrownByPanelry(RuntimeException e) {
+        String thrower = e.getStackTrace()[0].getClassName();
+        return thrower.equals("Panelry") || thrower.startsWith("Panelry$");
     }
 
     /** The call throws just this exception and changes nothing of Sample.house(). */

@@ -17,11 +17,7 @@ public final class Promise05Test {
     private static void reads(Due due, String told, String rightward, String leftward, int[]... panels) {
         for (int way = 0; way < 2; way++) {
             boolean isLeftward = way == 1;
-            Panelry x = new Panelry();
-            x.page(!isLeftward);
-            for (int[] p : panels) {
-                x.panel(0, p[0], p[1], p[2], p[3]);
-            }
+            Panelry x = Sample.pageOf(!isLeftward, panels);
             due.same(told + (isLeftward ? ", leftward" : ", rightward"), isLeftward ? leftward : rightward,
                     Sample.reading(x, 0, isLeftward, panels.length));
         }
@@ -55,6 +51,7 @@ public final class Promise05Test {
                 at(0, 0, 20, 30), at(0, 33, 22, 40), at(25, 0, 20, 31), at(25, 36, 20, 30));
         tiedCutsDownward(due);
         tiedCutsAcross(due);
+        deepCuts(due);
     }
 
     /** Two cuts downward with like gutters: by which one is first, a wider cut across comes up or does not. */
@@ -64,6 +61,28 @@ public final class Promise05Test {
                 at(0, 0, 18, 40), at(20, 0, 18, 30), at(40, 0, 18, 30), at(20, 34, 18, 30), at(40, 34, 18, 30));
         reads(due, "a cut across behind the cut at the greatest x", "02134", "41032",
                 at(0, 0, 18, 30), at(20, 0, 18, 30), at(0, 34, 18, 30), at(20, 34, 18, 30), at(40, 0, 18, 40));
+    }
+
+    /** Cuts that part one panel each from all the others, at either end. */
+    private static void deepCuts(Due due) {
+        int[][] likeGutters = new int[8][];
+        int[][] rowOfRisingGutters = new int[8][];
+        int[][] rowOfFallingGutters = new int[8][];
+        int[][] columnOfRisingGutters = new int[8][];
+        int[][] columnOfFallingGutters = new int[8][];
+        for (int i = 0; i < 8; i++) {
+            likeGutters[7 - i] = at(i * 7, 10, 5, 20);
+            int rising = i * 4 + i * (i - 1) / 2;
+            rowOfRisingGutters[7 - i] = at(rising, 10, 4, 20);
+            rowOfFallingGutters[i] = at(56 - rising, 10, 4, 20);
+            columnOfRisingGutters[7 - i] = at(10, rising, 20, 4);
+            columnOfFallingGutters[i] = at(10, 76 - rising, 20, 4);
+        }
+        reads(due, "a row of like gutters", "76543210", "01234567", likeGutters);
+        reads(due, "a row of rising gutters", "76543210", "01234567", rowOfRisingGutters);
+        reads(due, "a row of falling gutters", "76543210", "01234567", rowOfFallingGutters);
+        reads(due, "a column of rising gutters", "76543210", "76543210", columnOfRisingGutters);
+        reads(due, "a column of falling gutters", "76543210", "76543210", columnOfFallingGutters);
     }
 
     private static void tiedCutsAcross(Due due) {

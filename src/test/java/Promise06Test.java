@@ -35,11 +35,7 @@ public final class Promise06Test {
     }
 
     private static void doubts(Due due, String told, int rightward, int leftward, int[]... panels) {
-        Panelry x = new Panelry();
-        x.page(false);
-        for (int[] p : panels) {
-            x.panel(0, p[0], p[1], p[2], p[3]);
-        }
+        Panelry x = Sample.pageOf(false, panels);
         due.is(told + ", rightward", rightward, () -> x.doubts(0));
         x.turn(0, true);
         due.is(told + ", leftward", leftward, () -> x.doubts(0));

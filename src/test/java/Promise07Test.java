@@ -38,11 +38,7 @@ public final class Promise07Test {
 
     private static void orders(Due due, String told, int rightward, int leftward, int[]... panels) {
         for (int way = 0; way < 2; way++) {
-            Panelry x = new Panelry();
-            x.page(way == 1);
-            for (int[] p : panels) {
-                x.panel(0, p[0], p[1], p[2], p[3]);
-            }
+            Panelry x = Sample.pageOf(way == 1, panels);
             due.is(told + ", rightward", rightward, () -> x.orders(0, false));
             due.is(told + ", leftward", leftward, () -> x.orders(0, true));
         }

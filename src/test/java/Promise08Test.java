@@ -29,11 +29,7 @@ public final class Promise08Test {
 
     private static void isOne(Due due, String told, boolean rightward, boolean leftward, int[]... panels) {
         for (int way = 0; way < 2; way++) {
-            Panelry x = new Panelry();
-            x.page(way == 1);
-            for (int[] p : panels) {
-                x.panel(0, p[0], p[1], p[2], p[3]);
-            }
+            Panelry x = Sample.pageOf(way == 1, panels);
             due.holds(told + ", rightward", rightward, () -> x.isOne(0, false));
             due.holds(told + ", leftward", leftward, () -> x.isOne(0, true));
         }

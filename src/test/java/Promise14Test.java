@@ -239,6 +239,8 @@ public final class Promise14Test {
         hits("one figure, aslant the other way", true, true, ofOne(30, 30, 25, 40, 20, 50));
         hits("one figure, from both sides of the mouth", false, false, ofOne(20, 10, 20, 50, 20, 30));
         hits("one figure, from both sides, aslant", false, false, ofOne(10, 10, 30, 50, 20, 30));
+        hits("one figure, across, along the other", true, true, ofOne(10, 30, 14, 30, 20, 30));
+        hits("one figure, across, from both sides", false, false, ofOne(10, 30, 35, 30, 20, 30));
         hits("one figure, the first one's tail over the other's rectangle", true, false, ofOne(10, 10, 12, 20, 20, 50));
         hits("one figure, the other's tail a point", true, false, ofOne(20, 10, 20, 50, 20, 50));
         hits("one figure, the same tail", true, true, ofOne(10, 10, 10, 10, 20, 50));

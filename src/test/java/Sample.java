@@ -40,6 +40,16 @@ final class Sample {
         return x;
     }
 
+    /** A page 0 of these panels, each given by x, y, width and height. */
+    static Panelry pageOf(boolean isLeftward, int[]... panels) {
+        Panelry x = new Panelry();
+        x.page(isLeftward);
+        for (int[] p : panels) {
+            x.panel(0, p[0], p[1], p[2], p[3]);
+        }
+        return x;
+    }
+
     /** The reading of a page as one text. */
     static String reading(Panelry x, int page, boolean isLeftward, int panels) {
         StringBuilder text = new StringBuilder();
