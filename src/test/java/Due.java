@@ -73,9 +73,11 @@ final class Due {
 
     /** The call throws just this exception and changes nothing of Sample.house(). */
     void refuses(String call, Class<?> due, Consumer<Panelry> run) {
-        Panelry x = Sample.house();
-        fails(call, due, () -> run.accept(x));
-        same("what " + call + " leaves", Answers.of(Sample.house()), Answers.of(x));
+        for (int part = 0; part < Answers.PARTS; part++) {
+            Panelry x = Sample.house();
+            fails(call, due, () -> run.accept(x));
+            same("what " + call + " leaves", Answers.of(Sample.house(), part), Answers.of(x, part));
+        }
     }
 
     /** Ends the program: with the code 1 if an answer was wrong. */

@@ -23,6 +23,13 @@ public final class Promise01Test {
             x.panel(0, 0, 0, 20, 20);
             x.draw(0, 0, 0, 0, 0, 2, 0, false);
         });
+        due.fails("a new object has no figure that speaks", Due.NO_SUCH, () -> {
+            Panelry x = new Panelry();
+            x.page(false);
+            x.panel(0, 0, 0, 20, 20);
+            x.balloon(0, 0, 0, 0, 2, 2, 0, 1);
+        });
+        due.is("weeks pass without a page", 50, () -> new Panelry().pass(50));
         due.is("two objects share nothing", 0, () -> {
             Panelry x = new Panelry();
             x.page(false);

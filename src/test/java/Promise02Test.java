@@ -8,6 +8,8 @@ public final class Promise02Test {
             due.is("page " + i, i, () -> x.page(isLeftward));
         }
         due.fails("a page more than 8", Due.NOT_NOW, () -> x.page(false));
+        due.fails("once more, leftward", Due.NOT_NOW, () -> x.page(true));
+        due.fails("the page ahead of the first one", Due.NO_SUCH, () -> x.stage(-1));
         due.fails("the page that was not made", Due.NO_SUCH, () -> x.stage(8));
         for (int i = 0; i < 8; i++) {
             int page = i;

@@ -91,10 +91,26 @@ public final class Promise03Test {
             }
             return x.panel(0, 0, 28, 4, 4);
         });
+        due.is("a full page, then another page", 0, () -> {
+            Panelry x = Sample.fullPage(false);
+            x.page(false);
+            return x.panel(1, 0, 0, 4, 4);
+        });
+        due.fails("a panel beside eight others", Due.NOT_NOW, () -> rowOf(8).panel(0, 0, 40, 4, 4));
+        due.is("a panel beside seven others", 7, () -> rowOf(7).panel(0, 0, 40, 4, 4));
+        due.fails("a panel beside and over seven others", Due.NOT_NOW, () -> rowOf(7).panel(0, 0, 9, 4, 4));
         due.refuses("a panel of a printed page", Due.NOT_NOW, x -> x.panel(1, 0, 40, 4, 4));
         due.refuses("a panel of the page -1", Due.NO_SUCH, x -> x.panel(-1, 0, 0, 4, 4));
         due.refuses("a panel of the page 3", Due.NO_SUCH, x -> x.panel(3, 0, 0, 4, 4));
         due.is("a panel of a page at the stage 4", 3, () -> Sample.house().panel(0, 50, 0, 10, 30));
+    }
+
+    private static Panelry rowOf(int count) {
+        Panelry x = onePage();
+        for (int i = 0; i < count; i++) {
+            x.panel(0, i * 7, 0, 7, 10);
+        }
+        return x;
     }
 
     private static void firstOfSeveral(Due due) {

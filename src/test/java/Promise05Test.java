@@ -3,6 +3,8 @@ public final class Promise05Test {
     public static void main(String[] args) {
         Due due = new Due("Promise05Test");
         readings(due);
+        places(due);
+        withoutCut(due);
         due.fails("a place in a page without panels", Due.NO_SUCH, () -> Sample.house().read(2, false, 0));
         due.refuses("the place behind the last one", Due.NO_SUCH, x -> x.read(0, false, 3));
         due.refuses("the place -1", Due.NO_SUCH, x -> x.read(0, true, -1));
@@ -11,6 +13,42 @@ public final class Promise05Test {
         due.fails("the greatest place", Due.NO_SUCH, () -> Sample.house().read(0, false, Integer.MAX_VALUE));
         due.is("a printed page is read", 1, () -> Sample.house().read(1, true, 0));
         due.end();
+    }
+
+    /** A page of each number of panels has just so many places, in either direction. */
+    private static void places(Due due) {
+        for (int count = 0; count <= 8; count++) {
+            Panelry x = new Panelry();
+            x.page(false);
+            for (int i = 0; i < count; i++) {
+                x.panel(0, i % 2 * 30, i / 2 * 20, 28, 18);
+            }
+            for (int way = 0; way < 2; way++) {
+                boolean isLeftward = way == 1;
+                int behind = count;
+                String told = count + " panels" + (isLeftward ? ", leftward" : ", rightward");
+                boolean isAlone = isLeftward && count % 2 == 1;
+                int last = isLeftward && !isAlone ? count - 2 : count - 1;
+                if (count > 0) {
+                    due.is(told + ", the last place", last, () -> x.read(0, isLeftward, behind - 1));
+                    due.is(told + ", the first place", isLeftward && behind > 1 ? 1 : 0, () -> x.read(0, isLeftward, 0));
+                }
+                due.fails(told + ", the place behind the last one", Due.NO_SUCH, () -> x.read(0, isLeftward, behind));
+                due.fails(told + ", the place ahead of the first one", Due.NO_SUCH, () -> x.read(0, isLeftward, -1));
+            }
+        }
+    }
+
+    /** Panels around a middle, alone and as a part of a page. */
+    private static void withoutCut(Due due) {
+        reads(due, "four panels around nothing", "0123", "0123",
+                at(10, 20, 20, 10), at(0, 10, 10, 20), at(20, 0, 10, 20), at(0, 0, 20, 10));
+        reads(due, "a part without a cut, to the left of another one", "12345607", "67012345",
+                at(40, 20, 8, 10), at(10, 20, 20, 10), at(0, 10, 10, 20), at(10, 10, 10, 10), at(20, 0, 10, 20),
+                at(0, 0, 20, 10), at(40, 0, 20, 18), at(50, 20, 8, 10));
+        reads(due, "a part without a cut, below another one", "50123467", "50123476",
+                at(10, 40, 20, 10), at(0, 30, 10, 20), at(20, 20, 10, 20), at(10, 30, 10, 10), at(0, 20, 20, 10),
+                at(0, 0, 60, 10), at(0, 60, 20, 10), at(30, 60, 20, 10));
     }
 
     /** Reads a page of these panels, which is itself of the other direction. */
@@ -70,6 +108,7 @@ public final class Promise05Test {
         int[][] rowOfFallingGutters = new int[8][];
         int[][] columnOfRisingGutters = new int[8][];
         int[][] columnOfFallingGutters = new int[8][];
+        int[][] aslant = new int[8][];
         for (int i = 0; i < 8; i++) {
             likeGutters[7 - i] = at(i * 7, 10, 5, 20);
             int rising = i * 4 + i * (i - 1) / 2;
@@ -77,11 +116,13 @@ public final class Promise05Test {
             rowOfFallingGutters[i] = at(56 - rising, 10, 4, 20);
             columnOfRisingGutters[7 - i] = at(10, rising, 20, 4);
             columnOfFallingGutters[i] = at(10, 76 - rising, 20, 4);
+            aslant[7 - i] = at(i * 7, i * 7, 4, 4);
         }
         reads(due, "a row of like gutters", "76543210", "01234567", likeGutters);
         reads(due, "a row of rising gutters", "76543210", "01234567", rowOfRisingGutters);
         reads(due, "a row of falling gutters", "76543210", "01234567", rowOfFallingGutters);
         reads(due, "a column of rising gutters", "76543210", "76543210", columnOfRisingGutters);
+        reads(due, "aslant, with a doubt in each set", "76543210", "76543210", aslant);
         reads(due, "a column of falling gutters", "76543210", "76543210", columnOfFallingGutters);
     }
 

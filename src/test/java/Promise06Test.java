@@ -17,6 +17,15 @@ public final class Promise06Test {
                 at(0, 0, 20, 20), at(22, 0, 20, 20), at(0, 22, 20, 20), at(22, 22, 20, 20));
         doubts(due, "like gutters that are not the widest ones", 0, 0,
                 at(0, 0, 10, 10), at(12, 0, 10, 10), at(0, 15, 10, 10), at(0, 27, 10, 10));
+        doubts(due, "four panels around nothing", 1, 1,
+                at(10, 20, 20, 10), at(0, 10, 10, 20), at(20, 0, 10, 20), at(0, 0, 20, 10));
+        doubts(due, "gutters of 0 and 1", 0, 0, at(0, 0, 20, 20), at(20, 21, 20, 20));
+        doubts(due, "gutters of 1 and 0", 0, 0, at(0, 0, 20, 20), at(21, 20, 20, 20));
+        doubts(due, "gutters of 1 both", 1, 1, at(0, 0, 20, 20), at(21, 21, 20, 20));
+        doubts(due, "eight panels aslant", 7, 7, at(0, 0, 4, 4), at(7, 7, 4, 4), at(14, 14, 4, 4),
+                at(21, 21, 4, 4), at(28, 28, 4, 4), at(35, 35, 4, 4), at(42, 42, 4, 4), at(49, 49, 4, 4));
+        doubts(due, "eight panels beside one another", 0, 0, at(0, 0, 4, 4), at(7, 0, 4, 4), at(14, 0, 4, 4),
+                at(21, 0, 4, 4), at(28, 0, 4, 4), at(35, 0, 4, 4), at(42, 0, 4, 4), at(49, 0, 4, 4));
         doubts(due, "two sets of like gutters, one in the other", 2, 2,
                 at(0, 0, 20, 20), at(24, 24, 4, 4), at(30, 30, 4, 4));
         doubts(due, "two sets of like gutters, beside one another", 2, 2,

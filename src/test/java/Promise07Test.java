@@ -14,6 +14,14 @@ public final class Promise07Test {
                 at(20, 0, 10, 10), at(10, 5, 10, 10), at(0, 10, 10, 10));
         orders(due, "the panels around a middle", 1, 1,
                 at(0, 0, 40, 20), at(40, 0, 20, 60), at(20, 60, 40, 20), at(0, 20, 20, 60), at(20, 20, 20, 40));
+        orders(due, "four panels around nothing", 1, 1,
+                at(10, 20, 20, 10), at(0, 10, 10, 20), at(20, 0, 10, 20), at(0, 0, 20, 10));
+        orders(due, "eight panels aslant", 1, 1, at(0, 0, 4, 4), at(7, 7, 4, 4), at(14, 14, 4, 4),
+                at(21, 21, 4, 4), at(28, 28, 4, 4), at(35, 35, 4, 4), at(42, 42, 4, 4), at(49, 49, 4, 4));
+        orders(due, "three panels, the last one level with both by 1", 1, 0,
+                at(0, 0, 10, 11), at(20, 11, 10, 10), at(10, 10, 10, 4));
+        orders(due, "three panels, the last one level with the second alone", 1, 1,
+                at(0, 0, 10, 10), at(20, 11, 10, 10), at(10, 10, 10, 4));
         due.is("eight panels in rows", 1, () -> Sample.fullPage(false).orders(0, true));
         due.is("eight panels in rows, rightward", 1, () -> Sample.fullPage(true).orders(0, false));
         due.is("stairs of two on a page of eight panels", 0, () -> {

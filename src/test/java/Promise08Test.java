@@ -18,6 +18,10 @@ public final class Promise08Test {
                 at(0, 0, 40, 20), at(0, 20, 20, 60), at(20, 20, 20, 40), at(40, 0, 20, 60), at(20, 60, 40, 20));
         isOne(due, "stairs that rise to the right have no order", false, true,
                 at(0, 10, 10, 10), at(10, 5, 10, 10), at(20, 0, 10, 10));
+        due.holds("a full page", true, () -> Sample.fullPage(false).isOne(0, false));
+        due.holds("a full page, in the other direction", true, () -> Sample.fullPage(false).isOne(0, true));
+        isOne(due, "one panel beside a column that begins above it", false, true,
+                at(0, 20, 20, 20), at(24, 0, 20, 20), at(24, 21, 20, 20));
         due.refuses("isOne of the page -1", Due.NO_SUCH, x -> x.isOne(-1, false));
         due.refuses("isOne of the page 3", Due.NO_SUCH, x -> x.isOne(3, true));
         due.end();

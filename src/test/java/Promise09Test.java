@@ -5,6 +5,7 @@ public final class Promise09Test {
         panels(due);
         facesAndBalloons(due);
         work(due);
+        emptyAndFull(due);
         limits(due);
         due.end();
     }
@@ -112,6 +113,36 @@ public final class Promise09Test {
         due.is("it can be printed in time", 3, () -> x.press(4));
     }
 
+    private static void emptyAndFull(Due due) {
+        Panelry x = new Panelry();
+        x.page(true);
+        due.is("mirror of a page without panels", 1, () -> x.mirror(0));
+        due.fails("it has no panels", Due.NO_SUCH, () -> x.read(1, false, 0));
+        due.fails("it has no balloons", Due.NO_SUCH, () -> x.faults(1, 0));
+        due.is("it can have one", 0, () -> x.panel(1, 0, 0, 60, 80));
+        due.holds("its direction is the other one", false, () -> x.turn(1, false));
+        due.is("mirror of a panel that is the whole page", 2, () -> x.mirror(1));
+        due.fails("it is the whole page too", Due.NOT_NOW, () -> x.panel(2, 56, 76, 4, 4));
+        Panelry full = Sample.busyHouse();
+        due.is("mirror of a full page", 3, () -> full.mirror(0));
+        due.fails("it has no room for a panel", Due.NOT_NOW, () -> full.panel(3, 0, 0, 4, 4));
+        due.fails("it has no room for a balloon", Due.NOT_NOW, () -> full.balloon(3, 0, 40, 2, 4, 4, 0, 1));
+        for (int balloon = 0; balloon < 20; balloon++) {
+            int asked = balloon;
+            int mirrored = balloon < 8 ? 0 : 64;
+            due.is("mirrored, the order of balloon " + balloon, 0, () -> full.faults(0, asked) & 64);
+            due.is("mirrored, the order of its balloon " + balloon, 0, () -> full.faults(3, asked) & 64);
+            due.is("mirrored and turned, the order of its balloon " + balloon, mirrored, () -> {
+                full.turn(3, false);
+                int turned = full.faults(3, asked) & 64;
+                full.turn(3, true);
+                return turned;
+            });
+            due.is("mirrored, the faults 1 to 8 and 32 of its balloon " + balloon, full.faults(0, balloon) & 47,
+                    () -> full.faults(3, asked) & 47);
+        }
+    }
+
     private static void limits(Due due) {
         Panelry x = new Panelry();
         for (int i = 0; i < 7; i++) {
@@ -119,6 +150,8 @@ public final class Promise09Test {
         }
         due.is("the page 7 is a mirrored one", 7, () -> x.mirror(2));
         due.fails("mirror with 8 pages", Due.NOT_NOW, () -> x.mirror(2));
+        due.fails("mirror of the last page with 8 pages", Due.NOT_NOW, () -> x.mirror(7));
+        due.fails("mirror of the page ahead of the first one with 8 pages", Due.NO_SUCH, () -> x.mirror(-1));
         due.fails("mirror of none with 8 pages", Due.NO_SUCH, () -> x.mirror(8));
         due.fails("there is no page 8", Due.NO_SUCH, () -> x.stage(8));
         due.refuses("mirror of the page -1", Due.NO_SUCH, y -> y.mirror(-1));

@@ -5,6 +5,7 @@ public final class Promise11Test {
         faces(due);
         ranges(due);
         wrong(due);
+        full(due);
         due.end();
     }
 
@@ -52,6 +53,34 @@ public final class Promise11Test {
         for (int[] w : wrong) {
             due.fails("draw at " + w[0] + ", " + w[1] + ", " + w[2] + " wide, in " + w[3], Due.OUT_OF_RANGE,
                     () -> onePanel().draw(0, 0, 0, w[0], w[1], w[2], w[3], false));
+        }
+    }
+
+    /** Each figure in each panel. */
+    private static void full(Due due) {
+        Panelry x = Sample.fullPage(false);
+        for (int figure = 0; figure < 12; figure++) {
+            x.figure();
+            for (int panel = 0; panel < 8; panel++) {
+                int left = panel % 2 * 30 + figure % 4 * 6;
+                int top = panel / 2 * 20 + figure / 4 * 6;
+                int drawn = figure;
+                int in = panel;
+                due.ends("the figure " + figure + " in the panel " + panel,
+                        () -> x.draw(0, in, drawn, left, top, 6, in % 2, false));
+            }
+        }
+        due.is("all of them change from panel to panel", 12 * 7, x::breaks);
+        for (int panel = 0; panel < 8; panel++) {
+            for (int figure = 0; figure < 2; figure++) {
+                int left = panel % 2 * 30 + figure * 24;
+                x.balloon(0, panel, left, panel / 2 * 20, 6, 6, figure * 11, 1);
+            }
+        }
+        for (int balloon = 0; balloon < 16; balloon++) {
+            int asked = balloon;
+            due.is("over a face in each panel, beside the faces in each", balloon % 2 == 0 ? 4 : 0,
+                    () -> x.faults(0, asked) & 15);
         }
     }
 

@@ -4,6 +4,7 @@ public final class Promise12Test {
         Due due = new Due("Promise12Test");
         numbers(due);
         ranges(due);
+        kept(due);
         wrong(due);
         due.end();
     }
@@ -46,6 +47,22 @@ public final class Promise12Test {
         for (int[] w : wrong) {
             due.fails("balloon at " + w[0] + ", " + w[1] + " of " + w[2] + ", " + w[3] + " with " + w[4],
                     Due.OUT_OF_RANGE, () -> onePanel().balloon(0, 0, w[0], w[1], w[2], w[3], 0, w[4]));
+        }
+    }
+
+    /** The ends of its ranges, told by the faults of the balloon that is put there. */
+    private static void kept(Due due) {
+        int[][] faults = {
+            {0, 0, 60, 40, 0, 200, 0}, {0, 0, 60, 41, 0, 1, 1}, {0, 0, 2, 2, 0, 1, 32}, {58, 38, 2, 2, 0, 1, 32},
+            {59, 38, 2, 2, 0, 1, 33}, {58, 39, 2, 2, 0, 1, 33}, {59, 79, 60, 80, 0, 200, 1},
+            {0, 0, 4, 4, 1, 2, 8}, {0, 0, 4, 4, Panelry.NONE, 3, 32},
+        };
+        for (int[] f : faults) {
+            Panelry x = onePanel();
+            x.figure();
+            x.draw(0, 0, 0, 28, 18, 2, 0, false);
+            x.balloon(0, 0, f[0], f[1], f[2], f[3], f[4], f[5]);
+            due.is("the balloon at " + f[0] + ", " + f[1] + " of " + f[2] + ", " + f[3], f[6], () -> x.faults(0, 0) & ~4);
         }
     }
 

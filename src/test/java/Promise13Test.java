@@ -4,6 +4,7 @@ public final class Promise13Test {
         Due due = new Due("Promise13Test");
         moves(due);
         ranges(due);
+        full(due);
         wrong(due);
         due.end();
     }
@@ -24,6 +25,8 @@ public final class Promise13Test {
         due.is("it does not lie within it either", 1, () -> x.faults(0, 0));
         due.ends("move over the other one", () -> x.move(0, 0, 9, 0));
         due.is("it overlaps it", 2, () -> x.faults(0, 0));
+        due.ends("move to where it is", () -> x.move(0, 0, 9, 0));
+        due.is("it overlaps it still", 2, () -> x.faults(0, 0));
         due.ends("move back", () -> x.move(0, 0, 0, 0));
         due.is("the letters of the other one are as they were", 32, () -> x.faults(0, 1));
     }
@@ -39,6 +42,26 @@ public final class Promise13Test {
         for (int[] w : wrong) {
             due.refuses("move to " + w[0] + ", " + w[1], Due.OUT_OF_RANGE, x -> x.move(0, 1, w[0], w[1]));
         }
+    }
+
+    /** The first one and the last one of a full page are moved, each alone. */
+    private static void full(Due due) {
+        Panelry x = new Panelry();
+        x.page(false);
+        x.panel(0, 0, 0, 60, 80);
+        for (int i = 0; i < 20; i++) {
+            x.balloon(0, 0, i % 5 * 4, i / 5 * 4, 4, 4, Panelry.NONE, 1);
+        }
+        due.ends("move the first one", () -> x.move(0, 0, 59, 0));
+        due.ends("move the last one", () -> x.move(0, 19, 0, 79));
+        due.fails("move one behind the last one", Due.NO_SUCH, () -> x.move(0, 20, 0, 0));
+        for (int balloon = 0; balloon < 20; balloon++) {
+            int asked = balloon;
+            int moved = balloon == 0 || balloon == 19 ? 1 : 0;
+            due.is("whether it lies within the panel", moved, () -> x.faults(0, asked) & 3);
+        }
+        due.is("spoken behind the first one, to the left of it", 64, () -> x.faults(0, 1));
+        due.is("spoken behind the first one, below it", 0, () -> x.faults(0, 5));
     }
 
     private static void wrong(Due due) {

@@ -12,6 +12,7 @@ public final class Promise14Test {
         tailsAndTails();
         tailsOfOneFigure();
         tailsAndRectangles();
+        noneAndAll();
         DUE.refuses("faults on the page -1", Due.NO_SUCH, x -> x.faults(-1, 0));
         DUE.refuses("faults on the page 3", Due.NO_SUCH, x -> x.faults(3, 0));
         DUE.refuses("faults of the balloon -1", Due.NO_SUCH, x -> x.faults(0, -1));
@@ -202,6 +203,10 @@ public final class Promise14Test {
         hits("along like lines", false, false, tails(10, 10, 10, 50, 13, 12, 13, 52));
         hits("a tail that is a point on the other's tail", true, true, tails(30, 10, 10, 50, 20, 30, 20, 30));
         hits("a tail that is a point apart", false, false, tails(30, 10, 10, 50, 25, 40, 25, 40));
+        hits("mouths one apart", false, false, tails(10, 10, 10, 50, 30, 10, 11, 50));
+        hits("mouths one apart, the tails across", true, true, tails(10, 10, 11, 50, 30, 10, 10, 50));
+        hits("a mouth 1 ahead of the other's mouth", true, true, tails(10, 10, 10, 50, 30, 49, 10, 49));
+        hits("a mouth 1 behind the other's mouth", false, false, tails(10, 10, 10, 50, 30, 51, 10, 51));
         hits("two tails that are one point", true, true, tails(10, 30, 10, 30, 10, 30, 10, 30));
         hits("two tails that are points apart", false, false, tails(10, 30, 10, 30, 13, 30, 13, 30));
         Panelry x = page(false);
@@ -243,6 +248,9 @@ public final class Promise14Test {
         hits("one figure, across, from both sides", false, false, ofOne(10, 30, 35, 30, 20, 30));
         hits("one figure, the first one's tail over the other's rectangle", true, false, ofOne(10, 10, 12, 20, 20, 50));
         hits("one figure, the other's tail a point", true, false, ofOne(20, 10, 20, 50, 20, 50));
+        hits("one figure, tails of 1", true, true, ofOne(20, 49, 20, 49, 20, 50));
+        hits("one figure, a tail of 1 along the other", true, true, ofOne(20, 49, 20, 30, 20, 50));
+        hits("one figure, nearly along the other", false, false, ofOne(20, 10, 18, 16, 20, 50));
         hits("one figure, the same tail", true, true, ofOne(10, 10, 10, 10, 20, 50));
     }
 
@@ -299,6 +307,56 @@ public final class Promise14Test {
         rectangle("the tail a point above the upper edge", false, point, 8, 31, 4, 4);
         rectangle("the tail a point within", true, point, 5, 25, 20, 20);
         roundedMiddles();
+        narrowAndLow();
+    }
+
+    /** The middles of balloons that are not as wide as high. */
+    private static void narrowAndLow() {
+        int[][] sizes = {{4, 12}, {12, 4}, {5, 13}, {13, 5}, {2, 20}, {20, 2}};
+        for (int[] s : sizes) {
+            int middleX = 10 + s[0] / 2;
+            int middleY = 10 + s[1] / 2;
+            for (int step = -1; step <= 1; step++) {
+                Panelry x = page(false);
+                mouth(x, 0, 0, middleX, 50);
+                x.balloon(0, 0, 10, 10, s[0], s[1], 0, 1);
+                mute(x, 0, middleX + step, 40, 4, 4);
+                hits("down from " + s[0] + ", " + s[1] + ", a rectangle " + step + " aside", step <= 0, false, x);
+                Panelry y = page(false);
+                mouth(y, 0, 0, 38, middleY);
+                y.balloon(0, 0, 10, 10, s[0], s[1], 0, 1);
+                mute(y, 0, 32, middleY + step, 4, 4);
+                hits("across from " + s[0] + ", " + s[1] + ", a rectangle " + step + " aside", step <= 0, false, y);
+            }
+        }
+    }
+
+    /** A balloon alone on its page has none of the faults with others; there are balloons with each set of faults. */
+    private static void noneAndAll() {
+        Panelry alone = page(true);
+        alone.draw(0, 0, 0, 30, 50, 4, 0, false);
+        alone.balloon(0, 0, 0, 0, 8, 4, 0, 4);
+        DUE.is("alone", 0, () -> alone.faults(0, 0));
+        Panelry all = page(false);
+        all.draw(0, 0, 0, 36, 6, 4, 0, false);
+        all.balloon(0, 0, 0, 10, 40, 6, 0, 30);
+        all.balloon(0, 0, 34, 2, 8, 12, 0, 200);
+        all.balloon(0, 0, 34, 1, 8, 12, 1, 200);
+        DUE.is("all of the faults that one with a tail can have", 1 + 2 + 4 + 16 + 32 + 64, () -> all.faults(0, 1));
+        DUE.is("all of the faults that one without its figure can have", 1 + 2 + 4 + 8 + 32 + 64, () -> all.faults(0, 2));
+        Panelry full = page(false);
+        for (int i = 0; i < 20; i++) {
+            full.balloon(0, 0, i % 5 * 8, i / 5 * 8, 8, 8, Panelry.NONE, 8);
+        }
+        for (int i = 0; i < 20; i++) {
+            int asked = i;
+            DUE.is("side by side, in order, just filled", 0, () -> full.faults(0, asked));
+        }
+        full.turn(0, true);
+        for (int i = 0; i < 20; i++) {
+            int asked = i;
+            DUE.is("side by side, leftward", i % 5 == 0 ? 0 : 64, () -> full.faults(0, asked));
+        }
     }
 
     /** Middles of odd sizes are rounded down: of 5 at 8 the middle is at 10. */

@@ -7,6 +7,7 @@ public final class Promise15Test {
         alongTheHouse();
         byTheReading();
         manyFigures();
+        nothingAndAll();
         DUE.end();
     }
 
@@ -94,6 +95,39 @@ public final class Promise15Test {
         y.draw(0, 0, 0, 0, 40, 4, 1, true);
         y.draw(0, 1, 0, 0, 0, 4, 2, false);
         DUE.is("by the reading, not by the numbers", 0, y::breaks);
+    }
+
+    /** No pages, no panels, no figures; and as many breaks as there can be. */
+    private static void nothingAndAll() {
+        Panelry x = new Panelry();
+        DUE.is("without pages", 0, x::breaks);
+        x.page(false);
+        DUE.is("without panels", 0, x::breaks);
+        x.panel(0, 0, 0, 20, 20);
+        DUE.is("without figures", 0, x::breaks);
+        x.figure();
+        DUE.is("without a figure that is drawn", 0, x::breaks);
+        x.draw(0, 0, 0, 0, 0, 4, 9, false);
+        DUE.is("with a figure in one panel", 0, x::breaks);
+        x.mirror(0);
+        DUE.is("the same on the page behind", 0, x::breaks);
+        x.draw(1, 0, 0, 40, 0, 4, 8, false);
+        DUE.is("something else on the page behind", 1, x::breaks);
+        x.draw(0, 0, 0, 0, 0, 4, 8, false);
+        DUE.is("the same again on the page ahead", 0, x::breaks);
+        Panelry all = Sample.fullPage(false);
+        for (int figure = 0; figure < 12; figure++) {
+            all.figure();
+            for (int panel = 0; panel < 8; panel++) {
+                all.draw(0, panel, figure, panel % 2 * 30, panel / 2 * 20, 4, panel % 2 * 9, false);
+            }
+        }
+        for (int page = 1; page < 8; page++) {
+            int due = 12 * (8 * page - 1);
+            DUE.is("all figures on " + page + " full pages", due, all::breaks);
+            all.mirror(page - 1);
+        }
+        DUE.is("all figures on 8 full pages", 12 * 63, all::breaks);
     }
 
     private static void manyFigures() {

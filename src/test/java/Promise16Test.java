@@ -7,6 +7,7 @@ public final class Promise16Test {
             int telling = i;
             due.is("telling " + i, i, () -> x.tell(telling % 10, telling * 2, telling % 7, telling % 3 == 0));
         }
+        due.fails("a telling more than 40, of the fact 0", Due.NOT_NOW, () -> x.tell(0, 0, 0, false));
         due.fails("a telling more than 40", Due.NOT_NOW, () -> x.tell(9, 99, 9, true));
         due.fails("out of range behind 40", Due.OUT_OF_RANGE, () -> x.tell(9, 100, 9, true));
         due.fails("without a fact behind 40", Due.NO_SUCH, () -> x.tell(10, 100, 9, true));
@@ -21,7 +22,28 @@ public final class Promise16Test {
         due.refuses("the value 10", Due.OUT_OF_RANGE, y -> y.tell(0, 0, 10, false));
         due.fails("no fact, and out of range", Due.NO_SUCH, () -> new Panelry().tell(10, 100, 10, false));
         inItsWeek(due);
+        firstAndLast(due);
         due.end();
+    }
+
+    /** The first week and the last one, the first time and the last one. */
+    private static void firstAndLast(Due due) {
+        Panelry x = new Panelry();
+        x.tell(0, 0, 1, false);
+        due.is("told at first, known at once", 1, () -> x.known(0, 0, 0));
+        for (int i = 0; i < 4; i++) {
+            x.pass(50);
+        }
+        due.is("told in the last week", 1, () -> x.tell(0, 99, 2, false));
+        due.is("not known in the week ahead", 1, () -> x.known(0, 99, 199));
+        due.is("known in the last week", 2, () -> x.known(0, 99, 200));
+        due.is("not known of the time ahead", 1, () -> x.known(0, 98, 200));
+        for (int i = 2; i < 40; i++) {
+            int telling = i;
+            due.is("of the last week", telling, () -> x.tell(0, 99, telling % 10, false));
+        }
+        due.fails("a telling more than 40 in the last week", Due.NOT_NOW, () -> x.tell(0, 99, 0, false));
+        due.is("the telling 39 is the last one", 9, () -> x.known(0, 99, 200));
     }
 
     private static void inItsWeek(Due due) {

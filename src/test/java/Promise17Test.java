@@ -5,6 +5,7 @@ public final class Promise17Test {
         latestTime(due);
         retcons(due);
         weeks(due);
+        likeOnes(due);
         due.refuses("the fact -1", Due.NO_SUCH, x -> x.known(-1, 0, 0));
         due.refuses("the fact 10", Due.NO_SUCH, x -> x.known(10, 0, 0));
         due.refuses("the time -1", Due.OUT_OF_RANGE, x -> x.known(3, -1, 0));
@@ -48,6 +49,38 @@ public final class Promise17Test {
         x.tell(7, 31, 0, false);
         due.is("one of a later time, though it is no retcon", 0, () -> x.known(7, 31, 0));
         due.is("not at a time ahead of it", 5, () -> x.known(7, 30, 0));
+    }
+
+    /** Tellings that are alike but for one thing, and tellings that are none of the fact's. */
+    private static void likeOnes(Due due) {
+        Panelry x = new Panelry();
+        for (int fact = 0; fact < 10; fact++) {
+            int asked = fact;
+            due.is("nothing of the fact " + fact, Panelry.NONE, () -> x.known(asked, 99, 200));
+        }
+        x.tell(0, 40, 0, false);
+        x.tell(9, 40, 9, false);
+        for (int fact = 0; fact < 10; fact++) {
+            int asked = fact;
+            due.is("the fact " + fact, fact == 0 ? 0 : fact == 9 ? 9 : Panelry.NONE, () -> x.known(asked, 40, 0));
+        }
+        x.tell(0, 40, 5, true);
+        x.tell(0, 40, 6, true);
+        due.is("of two retcons of one week the last one", 6, () -> x.known(0, 40, 0));
+        x.pass(1);
+        x.tell(0, 40, 7, true);
+        due.is("of two retcons of two weeks the later one", 7, () -> x.known(0, 40, 1));
+        due.is("in the week ahead of it", 6, () -> x.known(0, 40, 0));
+        x.tell(0, 39, 8, true);
+        x.tell(0, 41, 1, false);
+        due.is("not of the time ahead", 7, () -> x.known(0, 40, 1));
+        due.is("of the time ahead", 8, () -> x.known(0, 39, 1));
+        due.is("of the time ahead, in the week ahead", Panelry.NONE, () -> x.known(0, 39, 0));
+        due.is("of the time behind", 1, () -> x.known(0, 41, 1));
+        due.is("of the time behind, in the week ahead", 6, () -> x.known(0, 41, 0));
+        x.tell(0, 41, 1, true);
+        x.tell(0, 41, 1, false);
+        due.is("the same value three times", 1, () -> x.known(0, 99, 200));
     }
 
     private static void weeks(Due due) {

@@ -32,6 +32,28 @@ public final class Promise18Test {
             }
             return y.contradictions(9);
         });
+        due.is("as many values as there can be", 780 - 10 * 6, () -> {
+            Panelry y = new Panelry();
+            for (int i = 0; i < 40; i++) {
+                y.tell(0, 0, i % 10, false);
+            }
+            return y.contradictions(0);
+        });
+        due.is("retcons alone", 0, () -> {
+            Panelry y = new Panelry();
+            for (int i = 0; i < 40; i++) {
+                y.tell(0, 0, i % 10, true);
+            }
+            return y.contradictions(0);
+        });
+        due.is("one behind 39 retcons", 39, () -> {
+            Panelry y = new Panelry();
+            for (int i = 0; i < 39; i++) {
+                y.tell(0, 99, i % 9, true);
+            }
+            y.tell(0, 99, 9, false);
+            return y.contradictions(0);
+        });
         due.refuses("the fact -1", Due.NO_SUCH, y -> y.contradictions(-1));
         due.refuses("the fact 10", Due.NO_SUCH, y -> y.contradictions(10));
         due.end();

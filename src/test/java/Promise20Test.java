@@ -5,6 +5,8 @@ public final class Promise20Test {
         weeks(due);
         work(due);
         laterPages(due);
+        fewAndMany(due);
+        atTheEnd(due);
         due.end();
     }
 
@@ -76,6 +78,65 @@ public final class Promise20Test {
         stages(due, "three weeks with two workers", x, 4, 4, 4, 4);
         x.pass(10);
         stages(due, "ten weeks more", x, 4, 4, 4, 4);
+    }
+
+    /** More workers than pages, and as many weeks as all the pages need. */
+    private static void fewAndMany(Due due) {
+        Panelry x = new Panelry();
+        x.workers(5);
+        due.is("weeks without pages", 3, () -> x.pass(3));
+        x.page(false);
+        x.pass(1);
+        stages(due, "five workers, one page", x, 1);
+        x.page(true);
+        x.pass(1);
+        stages(due, "five workers, two pages", x, 2, 1);
+        x.pass(2);
+        stages(due, "five workers, two pages, two weeks more", x, 4, 3);
+        x.pass(1);
+        stages(due, "five workers, two pages, one week more", x, 4, 4);
+        for (int workers = 1; workers <= 5; workers++) {
+            Panelry y = new Panelry();
+            for (int i = 0; i < 8; i++) {
+                y.page(false);
+            }
+            y.workers(workers);
+            int full = 32 / workers;
+            y.pass(full / 2);
+            int done = 0;
+            for (int i = 0; i < 8; i++) {
+                done += y.stage(i);
+            }
+            int sum = done;
+            due.is(workers + " workers, their stages together", workers * (full / 2), () -> sum);
+        }
+        Panelry one = new Panelry();
+        for (int i = 0; i < 8; i++) {
+            one.page(false);
+        }
+        one.pass(31);
+        stages(due, "31 weeks, one worker", one, 4, 4, 4, 4, 4, 4, 4, 3);
+        one.pass(1);
+        stages(due, "32 weeks, one worker", one, 4, 4, 4, 4, 4, 4, 4, 4);
+    }
+
+    /** The last passes that are allowed and the first ones that are not. */
+    private static void atTheEnd(Due due) {
+        for (int behind = 0; behind <= 50; behind += 7) {
+            Panelry x = new Panelry();
+            for (int i = 0; i < 3; i++) {
+                x.pass(50);
+            }
+            int left = 50 - behind;
+            if (behind > 0) {
+                int passed = behind;
+                due.is(behind + " weeks from 150", 150 + behind, () -> x.pass(passed));
+                due.fails(left + 1 + " weeks from " + (150 + behind), Due.NOT_NOW, () -> x.pass(left + 1));
+            }
+            due.is(left + " weeks up to 200", 200, () -> x.pass(left));
+            due.fails("one week from 200", Due.NOT_NOW, () -> x.pass(1));
+            due.fails("50 weeks from 200", Due.NOT_NOW, () -> x.pass(50));
+        }
     }
 
     private static void laterPages(Due due) {

@@ -23,6 +23,11 @@ public final class Promise21Test {
             x.press(0);
             return x.stage(0);
         });
+        due.is("the last one of 8 pages", 0, () -> {
+            Panelry y = Sample.fullHouse();
+            return y.stage(7);
+        });
+        due.fails("the page behind the last one of 8", Due.NO_SUCH, () -> Sample.fullHouse().stage(8));
         due.refuses("the page -1", Due.NO_SUCH, y -> y.stage(-1));
         due.refuses("the page 3", Due.NO_SUCH, y -> y.stage(3));
         due.fails("the greatest page", Due.NO_SUCH, () -> x.stage(Integer.MAX_VALUE));

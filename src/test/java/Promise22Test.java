@@ -30,6 +30,21 @@ public final class Promise22Test {
             }
             return y.press(0);
         });
+        due.is("press of each of 8 pages, none of which can be printed twice", 8, () -> {
+            Panelry y = new Panelry();
+            int printed = 0;
+            for (int i = 0; i < 8; i++) {
+                y.page(false);
+            }
+            y.pass(32);
+            for (int i = 0; i < 8; i++) {
+                int page = i;
+                y.press(page);
+                printed += y.printed(page, 0) == 32 ? 1 : 0;
+                due.fails("press of the page " + i + " once more", Due.NOT_NOW, () -> y.press(page));
+            }
+            return printed;
+        });
         due.refuses("press of a printed page", Due.NOT_NOW, y -> y.press(1));
         due.refuses("press of a page at the stage 0", Due.NOT_NOW, y -> y.press(2));
         due.refuses("press of the page -1", Due.NO_SUCH, y -> y.press(-1));

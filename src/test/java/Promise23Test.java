@@ -3,6 +3,9 @@ public final class Promise23Test {
     public static void main(String[] args) {
         Due due = new Due("Promise23Test");
         printedPages(due);
+        panels(due);
+        weeks(due);
+        keptAsItWas(due);
         wrong(due);
         due.end();
     }
@@ -39,6 +42,73 @@ public final class Promise23Test {
         full.pass(4);
         full.press(1);
         answers(due, "mirrored and printed", full, 1, 8, 8, 20 * 200 - 190, 1, 0, 3, 2, 5, 4, 7, 6);
+    }
+
+    /** Pages of no panels up to 8, read leftward and rightward. */
+    private static void panels(Due due) {
+        for (int count = 0; count <= 8; count++) {
+            int[] rightward = new int[11];
+            int[] leftward = new int[11];
+            java.util.Arrays.fill(rightward, Panelry.NONE);
+            java.util.Arrays.fill(leftward, Panelry.NONE);
+            Panelry x = new Panelry();
+            x.page(false);
+            for (int i = 0; i < count; i++) {
+                x.panel(0, i * 7, 0, 7, 80);
+                rightward[3 + i] = i;
+                leftward[3 + count - 1 - i] = i;
+            }
+            x.mirror(0);
+            x.mirror(0);
+            x.turn(2, false);
+            x.pass(12);
+            int[][] dues = {rightward, rightward, leftward};
+            for (int page = 0; page < 3; page++) {
+                dues[page][0] = 12;
+                dues[page][1] = count;
+                dues[page][2] = 0;
+                x.press(page);
+                answers(due, count + " panels, page " + page, x, page, dues[page]);
+            }
+        }
+    }
+
+    /** A page is printed in the first week in which it can be, and another one in the last week. */
+    private static void weeks(Due due) {
+        Panelry x = new Panelry();
+        x.page(false);
+        x.page(false);
+        x.workers(2);
+        x.pass(4);
+        x.press(0);
+        for (int i = 0; i < 3; i++) {
+            x.pass(50);
+        }
+        x.pass(46);
+        x.press(1);
+        due.is("printed in the week 4", 4, () -> x.printed(0, 0));
+        due.is("printed in the week 200", 200, () -> x.printed(1, 0));
+    }
+
+    /** What is changed ahead of the press is printed, and nothing behind it changes what was. */
+    private static void keptAsItWas(Due due) {
+        Panelry x = Sample.fullPage(false);
+        x.pass(4);
+        x.balloon(0, 0, 0, 0, 2, 2, Panelry.NONE, 1);
+        x.balloon(0, 7, 0, 0, 2, 2, Panelry.NONE, 200);
+        x.turn(0, true);
+        x.press(0);
+        answers(due, "printed", x, 0, 4, 8, 201, 1, 0, 3, 2, 5, 4, 7, 6);
+        x.mirror(0);
+        x.turn(1, true);
+        x.balloon(1, 0, 0, 0, 2, 2, Panelry.NONE, 50);
+        due.fails("a balloon more", Due.NOT_NOW, () -> x.balloon(0, 0, 0, 0, 2, 2, Panelry.NONE, 50));
+        due.fails("turned", Due.NOT_NOW, () -> x.turn(0, false));
+        x.pass(4);
+        due.fails("printed once more", Due.NOT_NOW, () -> x.press(0));
+        answers(due, "printed, behind all that", x, 0, 4, 8, 201, 1, 0, 3, 2, 5, 4, 7, 6);
+        x.press(1);
+        answers(due, "its copy", x, 1, 8, 8, 251, 0, 1, 2, 3, 4, 5, 6, 7);
     }
 
     private static void wrong(Due due) {

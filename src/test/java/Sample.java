@@ -30,6 +30,82 @@ final class Sample {
         return x;
     }
 
+    /**
+     * Pages: 0 with 8 panels and 20 balloons, at the stage 4, with room for a panel at 56, 0; 1 the same but read
+     * leftward and printed; 2 with one panel and one balloon, not at the stage 4. There are 4 figures, 3 workers and
+     * 10 tellings, and it is the week 8.
+     */
+    static Panelry busyHouse() {
+        Panelry x = new Panelry();
+        addFigures(x, 4);
+        addBusyPages(x);
+        x.workers(2);
+        x.pass(4);
+        addTellings(x, 5);
+        x.press(1);
+        x.pass(3);
+        addSmallPage(x);
+        x.workers(3);
+        x.pass(1);
+        addTellings(x, 5);
+        return x;
+    }
+
+    /** A busy house in which nothing more has room: 8 pages, 12 figures, 40 tellings, and it is the week 200. */
+    static Panelry fullHouse() {
+        Panelry x = new Panelry();
+        addFigures(x, 12);
+        addBusyPages(x);
+        x.workers(2);
+        x.pass(50);
+        addTellings(x, 20);
+        x.pass(50);
+        x.press(1);
+        x.pass(50);
+        x.pass(50);
+        addTellings(x, 20);
+        for (int page = 2; page < 8; page++) {
+            addSmallPage(x);
+        }
+        return x;
+    }
+
+    private static void addFigures(Panelry x, int count) {
+        for (int i = 0; i < count; i++) {
+            x.figure();
+        }
+    }
+
+    private static void addBusyPages(Panelry x) {
+        for (int page = 0; page < 2; page++) {
+            x.page(page == 1);
+            for (int i = 0; i < 8; i++) {
+                x.panel(page, i % 2 * 30, i / 2 * 20, 26, 18);
+            }
+            for (int i = 0; i < 8; i++) {
+                x.draw(page, i, i % 4, i % 2 * 30 + i % 4 * 6, i / 2 * 20 + 11, 5, 1 + i % 4, i == 7);
+            }
+            for (int i = 0; i < 20; i++) {
+                int panel = i % 8;
+                x.balloon(page, panel, panel % 2 * 30 + i / 8 * 9, panel / 2 * 20 + 1, 8, 6, i % 5 - 1, 3 + i % 4);
+            }
+        }
+    }
+
+    private static void addSmallPage(Panelry x) {
+        int page = x.page(false);
+        x.panel(page, 0, 0, 26, 18);
+        x.draw(page, 0, 2, 8, 2, 4, 3, false);
+        x.balloon(page, 0, 12, 10, 8, 6, 2, 5);
+    }
+
+    /** None of them has the value 9. */
+    private static void addTellings(Panelry x, int count) {
+        for (int i = 0; i < count; i++) {
+            x.tell(i % 3, i % 4 * 33, i % 7, i % 6 == 5);
+        }
+    }
+
     /** A page of the eight panels 0 to 7 in two columns and four rows. */
     static Panelry fullPage(boolean isLeftward) {
         Panelry x = new Panelry();
