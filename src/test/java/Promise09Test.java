@@ -61,10 +61,26 @@ public final class Promise09Test {
         due.ends("and on the mirrored page without a change", () -> x.draw(1, 0, 0, 30, 10, 5, 3, false));
         due.is("the mirrored page is the story's as well", 1, x::breaks);
         due.is("what is drawn on the mirrored page is not on the first one", 4, () -> x.faults(0, 2));
+        changes(due);
         due.is("a mirrored page can be mirrored", 2, () -> x.mirror(1));
         due.is("its balloon 1 is back in its place", 8 + 32, () -> x.faults(2, 1));
         beyondThePage(due);
         roundedMiddles(due);
+    }
+
+    /** Behind the page the first panel's change is not told, and the second one's is, as on the page itself. */
+    private static void changes(Due due) {
+        Panelry x = Sample.pageOf(true, new int[] {0, 0, 20, 20}, new int[] {30, 0, 20, 20});
+        x.figure();
+        x.draw(0, 1, 0, 30, 0, 4, 1, false);
+        x.draw(0, 0, 0, 0, 0, 4, 2, true);
+        due.is("ahead of the mirror", 0, x::breaks);
+        x.mirror(0);
+        due.is("what is told as a change on the page is on the mirrored one too", 1, x::breaks);
+        x.mirror(1);
+        due.is("and on its mirrored one", 2, x::breaks);
+        x.draw(1, 1, 0, 10, 0, 4, 1, true);
+        due.is("a change is told on the mirrored page alone", 1, x::breaks);
     }
 
     /** Half of an odd width is rounded down on both sides, so a tail may come to lie on an edge. */

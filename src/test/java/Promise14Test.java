@@ -113,6 +113,8 @@ public final class Promise14Test {
         DUE.is("none speaks", 0, () -> x.faults(0, 2));
         DUE.is("its figure is in the panel 1", 0, () -> x.faults(0, 3));
         x.draw(0, 0, 2, 2, 50, 4, 0, false);
+        x.balloon(0, 1, 42, 20, 4, 4, 1, 1);
+        DUE.is("its figure is in the panel 0 alone", 8, () -> x.faults(0, 4));
         DUE.is("its figure came into the panel", 0, () -> x.faults(0, 0));
     }
 

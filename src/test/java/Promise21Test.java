@@ -17,6 +17,8 @@ public final class Promise21Test {
             x.turn(0, true);
             x.balloon(0, 0, 0, 0, 4, 4, Panelry.NONE, 1);
             x.move(0, 0, 4, 4);
+            x.figure();
+            x.draw(0, 0, 0, 0, 0, 4, 1, true);
             return x.stage(0);
         });
         due.is("a page that was printed stays at 4", 4, () -> {
