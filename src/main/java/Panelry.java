@@ -746,7 +746,7 @@ public final class Panelry {
 
         static Reading of(Page page, boolean isLeftward) {
             Reading reading = new Reading(page, isLeftward);
-            reading.takeSet(page.allPanels(), 0);
+            takeSet(reading, page.allPanels(), 0);
             return reading;
         }
 
@@ -768,29 +768,30 @@ public final class Panelry {
             return true;
         }
 
-        private void takeSet(int set, int depth) {
+        /** Reads a set of panels behind those that were read already. */
+        private static void takeSet(Reading reading, int set, int depth) {
             if (Integer.bitCount(set) < 2 || depth >= MAX_PANELS) {
-                takeByNumber(set);
+                reading.takeByNumber(set);
                 return;
             }
-            int across = widestCut(set, true);
-            int downward = widestCut(set, false);
-            int gutterAcross = gutterAt(set, true, across);
-            int gutterDownward = gutterAt(set, false, downward);
+            int across = reading.widestCut(set, true);
+            int downward = reading.widestCut(set, false);
+            int gutterAcross = reading.gutterAt(set, true, across);
+            int gutterDownward = reading.gutterAt(set, false, downward);
             // Like gutters are a doubt, and none at all, NONE on both sides, is one too.
             if (gutterAcross == gutterDownward) {
-                doubtCount++;
+                reading.doubtCount++;
             }
             if (across == NONE && downward == NONE) {
-                takeByNumber(set);
+                reading.takeByNumber(set);
             } else if (gutterAcross >= gutterDownward) {
-                int above = endingBy(set, true, across);
-                takeSet(above, depth + 1);
-                takeSet(set & ~above, depth + 1);
+                int above = reading.endingBy(set, true, across);
+                takeSet(reading, above, depth + 1);
+                takeSet(reading, set & ~above, depth + 1);
             } else {
-                int toTheLeft = endingBy(set, false, downward);
-                takeSet(isLeftward ? set & ~toTheLeft : toTheLeft, depth + 1);
-                takeSet(isLeftward ? toTheLeft : set & ~toTheLeft, depth + 1);
+                int toTheLeft = reading.endingBy(set, false, downward);
+                takeSet(reading, reading.isLeftward ? set & ~toTheLeft : toTheLeft, depth + 1);
+                takeSet(reading, reading.isLeftward ? toTheLeft : set & ~toTheLeft, depth + 1);
             }
         }
 
